@@ -5,6 +5,7 @@ public final class EclipseWheel {
 
     private static final int MISSING = -11, OUTSIDE = -12, KINDLESS = -13, BELOW_NOTHING = -14;
     private static final int PLAIN = 0, BACK = 1, LAME = 2, HASTY = 3, GEARED = 4;
+    private static final int DARK = 0, PARTIAL = 1, WHOLE = 2, RINGED = 3;
     private static final int LAST_MONTH = 100000;
     private static final int MOST_WHEELS = 6;
     private static final int MOST_PARTS = 100000, MOST_STEP = 99999;
@@ -26,6 +27,7 @@ public final class EclipseWheel {
     private final Tape tape = new Tape();
     private int textsDone = 0;
     private final int[] found = new int[MOST_GAPS + 1];
+    private final int[] recordRow = new int[MOST_CYCLE];
     private final Sheet sheet = new Sheet();
     private final int[] rolledSizes = new int[ROLL_SPAN];
     private final int[] rolledSides = new int[ROLL_SPAN];
@@ -115,13 +117,13 @@ public final class EclipseWheel {
         if (!isStretch(a, b, SPAN)) {
             return BAD;
         }
-        if (kind < 0 || kind > 3) {
+        if (kind < 0 || kind > RINGED) {
             return NONE;
         }
         int many = 0;
         for (int m = a; m <= b; m++) {
             int it = now.eclipseAt(m);
-            if (it != 0 && (kind == 0 || it == kind)) {
+            if (it != DARK && (kind == 0 || it == kind)) {
                 many++;
             }
         }
@@ -135,7 +137,7 @@ public final class EclipseWheel {
         int onward = way == 0 ? 1 : -1;
         for (int i = 1; i <= SPAN; i++) {
             int there = m + onward * i;
-            if (isMonth(there) && now.eclipseAt(there) != 0) {
+            if (isMonth(there) && now.eclipseAt(there) != DARK) {
                 return there + LAST_MONTH;
             }
         }
@@ -146,7 +148,7 @@ public final class EclipseWheel {
         if (!isMonth(m) || !isCycle(k) || what < 0 || what > 2) {
             return BAD;
         }
-        if (now.eclipseAt(m) == 0) {
+        if (now.eclipseAt(m) == DARK) {
             return NOT;
         }
         int earlier = now.relatives(m, -k);
@@ -200,16 +202,7 @@ public final class EclipseWheel {
         if (now.wheelCount == 0) {
             return STATE;
         }
-        int many = 0;
-        int least = Integer.MAX_VALUE;
-        for (int k = 1; k <= most; k++) {
-            int far = now.driftOf(k, what);
-            if (far < least) {
-                least = far;
-                many++;
-            }
-        }
-        return many;
+        return findRecords(most, what);
     }
 
     public int record(int i, int what) {
@@ -219,19 +212,8 @@ public final class EclipseWheel {
         if (now.wheelCount == 0) {
             return STATE;
         }
-        int many = 0;
-        int least = Integer.MAX_VALUE;
-        for (int k = 1; k <= MOST_CYCLE; k++) {
-            int far = now.driftOf(k, what);
-            if (far < least) {
-                if (many == i) {
-                    return k;
-                }
-                least = far;
-                many++;
-            }
-        }
-        return NONE;
+        int many = findRecords(MOST_CYCLE, what);
+        return i >= 0 && i < many && i < recordRow.length ? recordRow[i] : NONE;
     }
 
     public int terms(int wheel) {
@@ -309,7 +291,10 @@ public final class EclipseWheel {
     }
 
     public int most(int n, int a, int b, int c, int d) {
-        if (n < 1 || n > 4 || !isMonth(a) || (n > 1 && !isMonth(b)) || (n > 2 && !isMonth(c)) || (n > 3 && !isMonth(d))) {
+        if (n < 1 || n > 4 || !isMonth(a)) {
+            return BAD;
+        }
+        if ((n > 1 && !isMonth(b)) || (n > 2 && !isMonth(c)) || (n > 3 && !isMonth(d))) {
             return BAD;
         }
         if (now.wheelCount == 0) {
@@ -357,12 +342,8 @@ public final class EclipseWheel {
         if (!one.hasPlace(p) || !other.hasPlace(q)) {
             return BAD;
         }
-        for (int m = 0; m <= LAST_MONTH; m++) {
-            if (now.placeAt(a, m) == p && now.placeAt(b, m) == q) {
-                return m;
-            }
-        }
-        return NOT;
+        int m = one.kind == GEARED ? now.firstMeeting(b, q, a, p) : now.firstMeeting(a, p, b, q);
+        return m > LAST_MONTH ? NOT : m;
     }
 
     public int spell(int m) {
@@ -414,9 +395,9 @@ public final class EclipseWheel {
     }
 
     public int read() {
-        int fault = tape.parse();
+        int fault = tape.formFault();
         if (fault == 0) {
-            fault = tape.firstUndoable(now.wheelCount);
+            fault = tape.doingFault(now.wheelCount);
         }
         tape.size = 0;
         if (fault != 0) {
@@ -463,7 +444,7 @@ public final class EclipseWheel {
         if (thing != null && !Wheel.isUnder(thing.kind, it.kind)) {
             return KINDLESS;
         }
-        it.places[i] = thing;
+        it.setThing(i, thing);
         return 1;
     }
 
@@ -478,7 +459,7 @@ public final class EclipseWheel {
         if (!it.hasPlace(i)) {
             return OUTSIDE;
         }
-        Wheel thing = it.places[i];
+        Wheel thing = it.thingAt(i);
         return thing == null ? NOT : thing.told(what);
     }
 
@@ -521,13 +502,13 @@ public final class EclipseWheel {
         if (!it.hasItem(i)) {
             return OUTSIDE;
         }
-        it.values[i] = v;
+        it.setItem(i, v);
         return 1;
     }
 
     public long get(int list, int i) {
         Items it = listNumbered(list);
-        return it == null || !it.hasItem(i) ? NO : it.values[i];
+        return it == null ? NO : it.itemAt(i);
     }
 
     public int fill(int list, int m) {
@@ -542,8 +523,8 @@ public final class EclipseWheel {
             return MISSING;
         }
         int many = find(m, it.size);
-        for (int i = 0; i < many; i++) {
-            it.values[i] = found[i];
+        for (int i = 0; i < many && i < found.length; i++) {
+            it.setItem(i, found[i]);
         }
         return many;
     }
@@ -561,7 +542,7 @@ public final class EclipseWheel {
         }
         int many = find(m, it.size);
         for (int i = 0; i < it.size; i++) {
-            if (i >= many || it.values[i] != found[i]) {
+            if (i >= many || i >= found.length || it.itemAt(i) != found[i]) {
                 return i;
             }
         }
@@ -613,11 +594,11 @@ public final class EclipseWheel {
         return number >= 0 && number < lists.length ? lists[number] : null;
     }
 
-    /** How many the family has, month i of a roll from a on being its latest; 0 if there is no eclipse. */
+    /** A family is kept as its size at its latest month: no two alive have the same one. */
     private int rollOnto(int a, int i, int k) {
         int size = 0;
         int side = 0;
-        if (now.eclipseAt(a + i) != 0) {
+        if (now.eclipseAt(a + i) != DARK) {
             side = now.sideAt(a + i);
             boolean goesOn = rolledSize(i - k) > 0 && rolledSides[i - k] == side;
             size = goesOn ? rolledSizes[i - k] + 1 : 1;
@@ -633,13 +614,26 @@ public final class EclipseWheel {
         return i >= 0 && i < rolledSizes.length ? rolledSizes[i] : 0;
     }
 
-    /** The first months with an eclipse from m on go into the row; how many there are. */
     private int find(int m, int most) {
         int many = 0;
         int end = Math.min(m + SPAN - 1, LAST_MONTH);
         for (int there = m; there <= end && many < most && many < found.length; there++) {
-            if (now.eclipseAt(there) != 0) {
+            if (now.eclipseAt(there) != DARK) {
                 found[many] = there;
+                many++;
+            }
+        }
+        return many;
+    }
+
+    private int findRecords(int most, int what) {
+        int many = 0;
+        int least = Integer.MAX_VALUE;
+        for (int k = 1; k <= most && many < recordRow.length; k++) {
+            int far = now.driftOf(k, what);
+            if (far < least) {
+                least = far;
+                recordRow[many] = k;
                 many++;
             }
         }
@@ -673,10 +667,10 @@ public final class EclipseWheel {
     }
 
     private static int letterOf(int eclipse) {
-        if (eclipse == 1) {
+        if (eclipse == PARTIAL) {
             return 'p';
         }
-        return eclipse == 2 ? 'w' : 'r';
+        return eclipse == WHOLE ? 'w' : 'r';
     }
 
     private void doStatement(int i) {
@@ -794,7 +788,7 @@ public final class EclipseWheel {
         }
 
         int near(int p, int q) {
-            return (int) Math.min(Numbers.left(p - q, parts), Numbers.left(q - p, parts));
+            return (int) Math.min(Numbers.leftOver(p - q, parts), Numbers.leftOver(q - p, parts));
         }
 
         int termNumbered(int wanted) {
@@ -830,9 +824,9 @@ public final class EclipseWheel {
 
         int nearestBelowLine(int most) {
             int best = 1;
-            long bestFar = near((int) Numbers.left(step, parts), 0);
+            long bestFar = near((int) Numbers.leftOver(step, parts), 0);
             for (int below = 2; below <= most; below++) {
-                long far = near((int) Numbers.left((long) step * below, parts), 0);
+                long far = near((int) Numbers.leftOver((long) step * below, parts), 0);
                 // Crosswise, so that no division rounds: far over below against bestFar over best.
                 if (far * best < bestFar * below) {
                     best = below;
@@ -847,7 +841,7 @@ public final class EclipseWheel {
                 return NO;
             }
             long stepAMonth = kind == HASTY ? 2L * step : step;
-            long period = Numbers.cut(parts, Numbers.commonDivisor(parts, stepAMonth));
+            long period = Numbers.cutDown(parts, Numbers.commonDivisor(parts, stepAMonth));
             // A lame wheel rests every other month, unless its steps are whole rounds and it rests always.
             return kind == LAME && period > 1 ? 2 * period : period;
         }
@@ -930,7 +924,7 @@ public final class EclipseWheel {
             long drive = m;
             for (int i = driverOf(number); i < number; i++) {
                 Wheel it = numbered(i);
-                drive = it == null ? 0 : Numbers.left(Numbers.cut(it.wayBy(drive), it.parts), MOST_ROUNDS_TOLD);
+                drive = it == null ? 0 : Numbers.leftOver(Numbers.cutDown(it.wayBy(drive), it.parts), MOST_ROUNDS_TOLD);
             }
             Wheel it = numbered(number);
             return it == null ? 0 : it.wayBy(drive);
@@ -948,12 +942,12 @@ public final class EclipseWheel {
 
         long roundsAt(int number, int m) {
             Wheel it = numbered(number);
-            return it == null ? 0 : Numbers.cut(wayAt(number, m), it.parts);
+            return it == null ? 0 : Numbers.cutDown(wayAt(number, m), it.parts);
         }
 
         int placeAt(int number, int m) {
             Wheel it = numbered(number);
-            return it == null ? 0 : (int) Numbers.left(wayAt(number, m), it.parts);
+            return it == null ? 0 : (int) Numbers.leftOver(wayAt(number, m), it.parts);
         }
 
         int farAt(int m) {
@@ -976,31 +970,48 @@ public final class EclipseWheel {
 
         int eclipseAt(int m) {
             if (wheelCount == 0) {
-                return 0;
+                return DARK;
             }
             int far = farAt(m);
             if (far > rules[OUTER]) {
-                return 0;
+                return DARK;
             }
             if (far > rules[INNER]) {
-                return 1;
+                return PARTIAL;
             }
             Wheel it = numbered(apse);
-            return it != null && it.near(placeAt(apse, m), 0) > rules[APSE_LIMIT] ? 3 : 2;
+            return it != null && it.near(placeAt(apse, m), 0) > rules[APSE_LIMIT] ? RINGED : WHOLE;
         }
 
-        /** How many of the family of m follow on it by steps of k (back, if k is below 0). */
         int relatives(int m, int k) {
             int side = sideAt(m);
             int many = 0;
             for (int i = 1; i <= MOST_FAMILY_STEPS; i++) {
                 int there = m + i * k;
-                if (!isMonth(there) || eclipseAt(there) == 0 || sideAt(there) != side) {
+                if (!isMonth(there) || eclipseAt(there) == DARK || sideAt(there) != side) {
                     return many;
                 }
                 many = i;
             }
             return many;
+        }
+
+        /** Steps by the periods of wheel a, lest all months be looked at; beyond the last month, if there is none. */
+        int firstMeeting(int a, int p, int b, int q) {
+            Wheel it = numbered(a);
+            int none = LAST_MONTH + 1;
+            long period = it == null ? NO : it.ownPeriod();
+            int round = period < 1 || period > LAST_MONTH ? none : (int) period;
+            int least = none;
+            for (int first = 0; first < round; first++) {
+                boolean isThere = placeAt(a, first) == p;
+                for (int m = first; isThere && m < least; m += round) {
+                    if (placeAt(b, m) == q) {
+                        least = m;
+                    }
+                }
+            }
+            return least;
         }
 
         int driftOf(int k, int what) {
@@ -1013,7 +1024,7 @@ public final class EclipseWheel {
         }
 
         long dayOf(int m) {
-            return Numbers.cut((long) rules[DAYS_ABOVE] * m, rules[DAYS_BELOW]);
+            return Numbers.cutDown((long) rules[DAYS_ABOVE] * m, rules[DAYS_BELOW]);
         }
 
         long restOf(int m) {
@@ -1022,24 +1033,24 @@ public final class EclipseWheel {
 
         long monthFrom(int day) {
             long wanted = (long) day * rules[DAYS_BELOW];
-            return Numbers.cut(wanted + rules[DAYS_ABOVE] - 1, rules[DAYS_ABOVE]);
+            return Numbers.cutDown(wanted + rules[DAYS_ABOVE] - 1, rules[DAYS_ABOVE]);
         }
 
         /** By whole leap cycles: up to 27 million years are too many to go through. */
         long yearOf(long day) {
             long cycleDays = 365L * rules[LEAP] + 1;
-            long rest = Numbers.left(day, cycleDays);
+            long rest = Numbers.leftOver(day, cycleDays);
             long inCycle = rest < 366 ? 0 : (rest - 1) / 365;
-            return Numbers.cut(day, cycleDays) * rules[LEAP] + inCycle;
+            return Numbers.cutDown(day, cycleDays) * rules[LEAP] + inCycle;
         }
 
         long firstDayOf(long year) {
-            long leapYearsAhead = Numbers.cut(year + rules[LEAP] - 1, rules[LEAP]);
+            long leapYearsAhead = Numbers.cutDown(year + rules[LEAP] - 1, rules[LEAP]);
             return 365 * year + leapYearsAhead;
         }
 
         float sizeAt(int m) {
-            if (eclipseAt(m) == 0) {
+            if (eclipseAt(m) == DARK) {
                 return 0.0f;
             }
             return (float) (rules[OUTER] - farAt(m)) / (float) (rules[OUTER] + 1);
@@ -1059,6 +1070,16 @@ public final class EclipseWheel {
 
         boolean hasPlace(int i) {
             return i >= 0 && i < size && i < MOST_PLACES;
+        }
+
+        Wheel thingAt(int i) {
+            return hasPlace(i) ? places[i] : null;
+        }
+
+        void setThing(int i, Wheel thing) {
+            if (hasPlace(i)) {
+                places[i] = thing;
+            }
         }
 
         void empty(int forKind, int n) {
@@ -1090,6 +1111,16 @@ public final class EclipseWheel {
 
         boolean hasItem(int i) {
             return i >= 0 && i < size && i < MOST_ITEMS;
+        }
+
+        long itemAt(int i) {
+            return hasItem(i) ? values[i] : NO;
+        }
+
+        void setItem(int i, long v) {
+            if (hasItem(i)) {
+                values[i] = v;
+            }
         }
 
         void clear(int n) {
@@ -1182,8 +1213,7 @@ public final class EclipseWheel {
             }
         }
 
-        /** The fault of form, 0 if there is none. */
-        int parse() {
+        int formFault() {
             statements = 0;
             place = 0;
             faulty = false;
@@ -1247,8 +1277,8 @@ public final class EclipseWheel {
             return here;
         }
 
-        /** The fault of the first statement that the wheels there would not allow, 0 if there is none. */
-        int firstUndoable(int wheelsThere) {
+        /** Nothing is done on trial: all that a statement can ask of those ahead of it is how many wheels there are. */
+        int doingFault(int wheelsThere) {
             int wheels = wheelsThere;
             for (int i = 0; i < statements && i < MOST_STATEMENTS; i++) {
                 if (!canBeDone(i, wheels)) {
@@ -1275,14 +1305,13 @@ public final class EclipseWheel {
         }
     }
 
+    /** Divisors are looked at here, though no setup lets one become 0. */
     private static final class Numbers {
-        /** Cut down to the next whole number that is no greater. */
-        static long cut(long a, long b) {
+        static long cutDown(long a, long b) {
             return b <= 0 ? 0 : Math.floorDiv(a, b);
         }
 
-        /** What is left by cut(), from 0 on. */
-        static long left(long a, long b) {
+        static long leftOver(long a, long b) {
             return b <= 0 ? 0 : Math.floorMod(a, b);
         }
 
@@ -1299,7 +1328,7 @@ public final class EclipseWheel {
 
         /** NO, if it is no long. */
         static long leastCommon(long a, long b) {
-            long by = cut(b, commonDivisor(a, b));
+            long by = cutDown(b, commonDivisor(a, b));
             if (by <= 0 || a > Long.MAX_VALUE / by) {
                 return NO;
             }
