@@ -123,22 +123,28 @@ public final class DateTest {
         due("24 2", x.angle(0, 2), 0x4000000000000000L);
         due("24 90", x.angle(0, 90), 0x4056800000000000L);
         due("24 359", x.angle(0, -1), Double.doubleToLongBits(359.0));
-        for (int m = -3000; m <= 3000; m += 7) {
+        due("24 no wheel", x.angle(4, 0), Check.NO);
+        due("24 no wheel below", x.angle(-1, 0), Check.NO);
+        due("24 no month", x.angle(0, 100001), Check.NO);
+        due("24 no month below", x.angle(0, -100001), Check.NO);
+        for (int m = -400; m <= 400; m += 23) {
             for (int w = 0; w < 4; w++) {
                 double angle = 360.0 * x.at(w, m) / x.of(w, 1);
                 due("24 angle(" + w + ", " + m + ")", x.angle(w, m), Double.doubleToLongBits(angle));
             }
         }
-        EclipseWheel y = new EclipseWheel();
-        y.wheel(0, 100000, 1, 0);
-        for (int m = 0; m < 1100; m++) {
-            due("24 small " + m, y.angle(0, m), Double.doubleToLongBits(360.0 * m / 100000));
+        for (int parts = 2; parts <= 100000; parts += parts < 100 ? 1 : 9990) {
+            EclipseWheel y = new EclipseWheel();
+            y.wheel(0, parts, 1, 0);
+            for (int m = 0; m < Math.min(parts, 300); m++) {
+                due("24 of " + parts + " at " + m, y.angle(0, m), Double.doubleToLongBits(360.0 * m / parts));
+            }
+            double greatest = 360.0 * (parts - 1) / parts;
+            due("24 greatest of " + parts, y.angle(0, parts - 1), Double.doubleToLongBits(greatest));
         }
-        due("24 greatest", y.angle(0, 99999), Double.doubleToLongBits(360.0 * 99999 / 100000));
-        due("24 no wheel", x.angle(4, 0), Check.NO);
-        due("24 no wheel below", x.angle(-1, 0), Check.NO);
-        due("24 no month", x.angle(0, 100001), Check.NO);
-        due("24 no month below", x.angle(0, -100001), Check.NO);
+        EclipseWheel least = new EclipseWheel();
+        least.wheel(0, 100000, 1, 0);
+        due("24 least", least.angle(0, 1), Double.doubleToLongBits(360.0 / 100000));
     }
 
     private static void promise25Size() {
@@ -149,10 +155,10 @@ public final class DateTest {
             due("25 size " + m, x.size(m, 0), Float.floatToIntBits(sizes[m]));
             due("25 grade " + m, x.size(m, 1), grades[m]);
         }
-        EclipseWheel y = new EclipseWheel();
-        y.wheel(0, 100000, 1, 0);
-        int[] outers = {0, 1, 2, 5, 9, 16, 28, 99, 300, 1023, 40000, 99999};
+        int[] outers = {0, 1, 2, 5, 9, 16, 28, 99, 300, 1023, 40000, 99998};
         for (int outer : outers) {
+            EclipseWheel y = new EclipseWheel();
+            y.wheel(0, 100000, 1, 0);
             y.rule(0, outer);
             for (int m = 0; m <= 1200; m += 11) {
                 float size = m > outer ? 0.0f : (float) (outer - m) / (float) (outer + 1);
@@ -160,7 +166,14 @@ public final class DateTest {
                 due("25 grade by " + outer, y.size(m, 1), (int) (size * 1000.0f));
             }
         }
-        due("25 greatest outer", y.size(0, 0), Float.floatToIntBits(99999f / 100000f));
+        EclipseWheel z = Check.small();
+        z.rule(0, 99999);
+        due("25 greatest outer", z.size(0, 0), Float.floatToIntBits(99999f / 100000f));
+        due("25 greatest grade", z.size(0, 1), 999);
+        z.wheel(0, 100000, 1, 0);
+        z.bind(1, -1);
+        z.rule(0, 25000);
+        due("25 least size", z.size(24999, 0), Float.floatToIntBits(1f / 25001f));
         due("25 bad month", x.size(100001, 0), Check.BAD);
         due("25 bad month below", x.size(-100001, 0), Check.BAD);
         due("25 bad what", x.size(0, 2), Check.BAD);

@@ -6,7 +6,7 @@ import java.util.List;
 /** Runs of calls on new objects, told by a fixed row of numbers, beside the model: each answer must be the same. */
 public final class ModelTest {
     private static final Check check = new Check("ModelTest");
-    private static final int CALLS = 150;
+    private static final int CALLS = 100;
     private static final int[] WILD = {Integer.MIN_VALUE, Integer.MAX_VALUE, -1, 0, 1, 100000, -100000, 100001, -100001};
 
     private static long row;
@@ -23,7 +23,7 @@ public final class ModelTest {
 
     public static void main(String[] args) throws ReflectiveOperationException {
         int from = args.length > 0 ? Integer.parseInt(args[0]) : 0;
-        int runs = args.length > 1 ? Integer.parseInt(args[1]) : 150;
+        int runs = args.length > 1 ? Integer.parseInt(args[1]) : 250;
         List<Method> calls = new ArrayList<>();
         for (Method m : EclipseWheel.class.getDeclaredMethods()) {
             if (java.lang.reflect.Modifier.isPublic(m.getModifiers())) {

@@ -126,10 +126,10 @@ public final class RoundTest {
     }
 
     private static void duePaper(EclipseWheel x, int m, String want) {
-        due("30 spell " + m, x.spell(m), want.length());
         for (int i = 0; i < want.length(); i++) {
             due("31 paper " + m + " at " + i, x.paper(m, i), want.charAt(i));
         }
+        due("30 spell " + m, x.spell(m), want.length());
         due("31 behind the last of " + m, x.paper(m, want.length()), Check.NONE);
         due("31 before the first of " + m, x.paper(m, -1), Check.NONE);
         due("31 far off of " + m, x.paper(m, Integer.MAX_VALUE), Check.NONE);

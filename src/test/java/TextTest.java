@@ -77,8 +77,6 @@ public final class TextTest {
     }
 
     private static void promise34Form() {
-        EclipseWheel x = new EclipseWheel();
-        x.wheel(0, 9, 1, 0);
         String[] faulty = {
             "", "x", " ", "W1/2", "1", ";", "/", "+",
             "w", "w/", "wx", "w1", "w1;", "w1+", "w1/", "w1/;", "w1/+", "w1/2+", "w1/2+;", "w1/2+x", "w1/2+3+", "w1/2/",
@@ -97,11 +95,14 @@ public final class TextTest {
         };
         due("34 as many places as texts", faulty.length, places.length);
         for (int i = 0; i < Math.min(faulty.length, places.length); i++) {
+            EclipseWheel x = new EclipseWheel();
+            x.wheel(0, 9, 1, 0);
             dueRead(x, faulty[i], -100 - places[i]);
+            due("34 nothing done by " + faulty[i], x.count(0), 1);
+            due("34 nothing done to outer by " + faulty[i], x.count(5), 15);
+            due("34 nothing done to inner by " + faulty[i], x.count(6), 9);
         }
-        due("34 nothing done", x.count(0), 1);
-        due("34 nothing done to outer", x.count(5), 15);
-        due("34 nothing done to inner", x.count(6), 9);
+        EclipseWheel x = new EclipseWheel();
         dueRead(x, "o7;i8;", -106);
         due("34 nothing done before the fault", x.count(5), 15);
         due("34 no text done", x.count(2), 0);

@@ -121,6 +121,9 @@ public final class TrayTest {
         due("37 none: what", x.laid(1, 11, 4), Check.NONE);
         due("37 none: what below", x.laid(1, 11, -1), Check.NONE);
         due("37 none ahead of missing", x.laid(0, 0, 4), Check.NONE);
+        due("37 none below ahead of missing", x.laid(0, 0, -1), Check.NONE);
+        due("37 none ahead of not", x.laid(1, 10, 4), Check.NONE);
+        due("37 none below ahead of not", x.laid(1, 10, -1), Check.NONE);
         due("37 missing", x.laid(0, 0, 0), Check.MISSING);
         due("37 missing ahead of outside", x.laid(0, 12, 0), Check.MISSING);
         due("37 outside", x.laid(1, 12, 0), Check.OUTSIDE);
