@@ -18,6 +18,7 @@ public final class EclipseWheel {
     private static final int MOST_GAPS = 60;
     private static final int FIRST_RULE_COUNTED = 5;
     private static final int MOST_ROUNDS_TOLD = 100000;
+    private static final long GREATEST_LONG = 9223372036854775807L;
 
     private final Setup now = new Setup();
     private final Setup kept = new Setup();
@@ -36,13 +37,7 @@ public final class EclipseWheel {
     }
 
     public int wheel(int kind, int parts, int step, int start) {
-        if (!Wheel.canBe(kind, parts, step, start)) {
-            return BAD;
-        }
-        if (now.wheelCount >= MOST_WHEELS) {
-            return FULL;
-        }
-        return now.addWheel(kind, parts, step, start);
+        return Wheel.canBe(kind, parts, step, start) ? now.addWheel(kind, parts, step, start) : BAD;
     }
 
     public int of(int wheel, int what) {
@@ -65,7 +60,7 @@ public final class EclipseWheel {
     }
 
     public int drop() {
-        return now.wheelCount == 0 ? STATE : now.dropLast();
+        return now.dropLast();
     }
 
     public int at(int wheel, int m) {
@@ -628,7 +623,7 @@ public final class EclipseWheel {
 
     private int findRecords(int most, int what) {
         int many = 0;
-        int least = Integer.MAX_VALUE;
+        int least = MOST_PARTS;
         for (int k = 1; k <= most && many < recordRow.length; k++) {
             int far = now.driftOf(k, what);
             if (far < least) {
@@ -910,34 +905,31 @@ public final class EclipseWheel {
         }
 
         int dropLast() {
-            if (wheelCount > 0 && wheelCount <= MOST_WHEELS) {
-                wheelCount--;
-                wheels[wheelCount] = null;
-                node = node == wheelCount ? 0 : node;
-                apse = apse == wheelCount ? NONE : apse;
+            int last = wheelCount - 1;
+            if (last < 0 || last >= MOST_WHEELS) {
+                return STATE;
             }
+            wheels[last] = null;
+            wheelCount = last;
+            node = node == last ? 0 : node;
+            apse = apse == last ? NONE : apse;
             return wheelCount;
         }
 
-        /** From the wheel that drives all the geared ones up to this one, each told the rounds of the one ahead. */
         long wayAt(int number, int m) {
+            int driver = number;
+            Wheel it = numbered(driver);
+            while (driver > 0 && it != null && it.kind == GEARED) {
+                driver--;
+                it = numbered(driver);
+            }
             long drive = m;
-            for (int i = driverOf(number); i < number; i++) {
-                Wheel it = numbered(i);
-                drive = it == null ? 0 : Numbers.leftOver(Numbers.cutDown(it.wayBy(drive), it.parts), MOST_ROUNDS_TOLD);
+            while (driver < number && it != null) {
+                drive = Numbers.leftOver(Numbers.cutDown(it.wayBy(drive), it.parts), MOST_ROUNDS_TOLD);
+                driver++;
+                it = numbered(driver);
             }
-            Wheel it = numbered(number);
             return it == null ? 0 : it.wayBy(drive);
-        }
-
-        int driverOf(int number) {
-            for (int i = number; i > 0; i--) {
-                Wheel it = numbered(i);
-                if (it == null || it.kind != GEARED) {
-                    return i;
-                }
-            }
-            return 0;
         }
 
         long roundsAt(int number, int m) {
@@ -1329,13 +1321,13 @@ public final class EclipseWheel {
         /** NO, if it is no long. */
         static long leastCommon(long a, long b) {
             long by = cutDown(b, commonDivisor(a, b));
-            if (by <= 0 || a > Long.MAX_VALUE / by) {
+            if (by <= 0 || a > GREATEST_LONG / by) {
                 return NO;
             }
             return a * by;
         }
 
-        /** Of a number that is 0 or no less than the least normal one: the language part has no call for the bits. */
+        /** Of 0 or a normal number above it, put together here: the part of Java kept to has no call for the bits. */
         static long bitsOfDouble(double v) {
             if (v <= 0.0) {
                 return 0;
@@ -1353,16 +1345,13 @@ public final class EclipseWheel {
             return (exponent << 52) + (long) ((scaled - 1.0) * 4503599627370496.0);
         }
 
+        /** Of 0 or a normal number below 2, as no size is greater. */
         static int bitsOfFloat(float v) {
             if (v <= 0.0f) {
                 return 0;
             }
             float scaled = v;
             int exponent = 127;
-            for (int i = 0; i < 127 && scaled >= 2.0f; i++) {
-                scaled /= 2.0f;
-                exponent++;
-            }
             for (int i = 0; i < 126 && scaled < 1.0f; i++) {
                 scaled *= 2.0f;
                 exponent--;

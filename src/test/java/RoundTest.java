@@ -74,18 +74,19 @@ public final class RoundTest {
         due("28 no long of four", y.allRound(15), Check.NO);
         due("28 no long of six", y.allRound(63), Check.NO);
         due("28 of others", y.allRound(56), 99961L * 99929 * 99923);
-        // 2^5 .. : 92681 times 99989 times 99971 times 9955 is just below 2^63, times 9956 just above
+        // the last is as great as a long leaves room for
         EclipseWheel z = new EclipseWheel();
-        z.wheel(0, 92681, 1, 0);
-        z.wheel(0, 99989, 1, 0);
-        z.wheel(0, 99971, 1, 0);
-        z.wheel(0, 9955, 1, 0);
-        z.wheel(0, 9957, 1, 0);
-        z.wheel(0, 9956, 1, 0);
-        long three = 92681L * 99989 * 99971;
-        due("28 just a long", z.allRound(15), three <= Long.MAX_VALUE / 9955 ? three * 9955 : Check.NO);
-        due("28 just no long", z.allRound(23), three <= Long.MAX_VALUE / 9957 ? three * 9957 : Check.NO);
-        due("28 9956", z.allRound(39), three <= Long.MAX_VALUE / 9956 ? three * 9956 : Check.NO);
+        for (int parts : new int[] {43711, 42893, 49197, 99994}) {
+            z.wheel(0, parts, 1, 0);
+        }
+        due("28 just a long", z.allRound(15), 43711L * 42893 * 49197 * 99994);
+        EclipseWheel beyond = new EclipseWheel();
+        for (int parts : new int[] {50581, 48607, 37516, 99997}) {
+            beyond.wheel(0, parts, 1, 0);
+        }
+        due("28 just no long", beyond.allRound(15), Check.NO);
+        beyond.turn(3, 99997, 0);
+        due("28 one stands still", beyond.allRound(15), 50581L * 48607 * 37516);
     }
 
     private static void promise29Meeting() {

@@ -30,6 +30,14 @@ public final class TrayTest {
 
     private static void promise35Tray() {
         EclipseWheel x = ofEachKind();
+        x.tray(0, 0, 12);
+        for (int i = 0; i < 12; i++) {
+            x.lay(0, i, i % 5);
+        }
+        x.tray(0, 0, 12);
+        for (int i = 0; i < 12; i++) {
+            due("35 all empty " + i, x.laid(0, i, 0), Check.NOT);
+        }
         for (int tray = 0; tray < 4; tray++) {
             due("35 made " + tray, x.tray(tray, tray, 12 - tray), 1);
             due("35 empty " + tray, x.laid(tray, 11 - tray, 0), Check.NOT);
@@ -213,10 +221,18 @@ public final class TrayTest {
         due("39 bad far above", x.list(0, Integer.MAX_VALUE), Check.BAD);
         due("39 size", x.list(0, -2), Check.SIZE);
         due("39 size far below", x.list(0, Integer.MIN_VALUE), Check.SIZE);
-        x.put(0, 5, 7);
+        for (int i = 0; i < 40; i++) {
+            x.put(0, i, 7);
+        }
         due("39 as it was", x.get(0, 5), 7);
-        due("39 anew", x.list(0, 6), 1);
-        due("39 anew all 0", x.get(0, 5), 0);
+        due("39 anew", x.list(0, 40), 1);
+        for (int i = 0; i < 40; i++) {
+            due("39 anew all 0", x.get(0, i), 0);
+        }
+        x.put(0, 5, 8);
+        x.list(0, 5);
+        x.list(0, 6);
+        due("39 nothing comes back", x.get(0, 5), 0);
         due("39 no items", x.list(0, 0), 1);
         due("39 no items' first", x.put(0, 0, 1), Check.OUTSIDE);
         due("39 missing", x.list(0, -1), 1);
