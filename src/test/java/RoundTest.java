@@ -143,6 +143,10 @@ public final class RoundTest {
         duePaper(x, 4, "7p1;8p1;9w1;10w1;11w1;12p1;13p1;17p0;18p0;19w0;20w0;21w0");
         duePaper(x, 99998, "99998p0;99999w0;100000w0");
         duePaper(x, 100000, "100000w0");
+        due("30 spell of another month than the paper's", x.spell(0), 52);
+        due("31 paper of another month than the spell's", x.paper(100000, 7), '0');
+        due("30 spell once more", x.spell(0), 52);
+        due("31 paper once more", x.paper(100000, 8), Check.NONE);
         duePaper(x, -100000, "-100000w0;-99999w0;-99998p0;-99997p0;-99993p1;-99992p1;-99991w1;-99990w1;"
             + "-99989w1;-99988p1;-99987p1;-99983p0");
         x.wheel(0, 8, 1, 0);
