@@ -191,6 +191,11 @@ public final class RoundTest {
         dueGap(x, 0, 14, 1, 12, 4);
         dueGap(x, 0, 60, 1, 51, 4);
         dueGap(x, 4, 5, 1, 5, 1);
+        // what was found for more gaps, or farther on, goes into no others
+        dueGap(x, 0, 60, 1, 51, 4);
+        dueGap(x, 0, 4, 1, 3, 4);
+        dueGap(x, 5000, 60, 1, 51, 4);
+        dueGap(x, 0, 1, 1, 1, 1);
         x.rule(0, 1);
         // 0, 1, 9, 10, 11, 19, 20, 21, ..
         dueGap(x, 1, 4, 1, 2, 8);
