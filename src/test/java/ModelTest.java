@@ -1,6 +1,4 @@
 import java.lang.reflect.Method;
-import java.util.ArrayList;
-import java.util.Comparator;
 import java.util.List;
 
 /** Runs of calls on new objects, told by a fixed row of numbers, beside the model: each answer must be the same. */
@@ -24,14 +22,7 @@ public final class ModelTest {
     public static void main(String[] args) throws ReflectiveOperationException {
         int from = args.length > 0 ? Integer.parseInt(args[0]) : 0;
         int runs = args.length > 1 ? Integer.parseInt(args[1]) : 250;
-        List<Method> calls = new ArrayList<>();
-        for (Method m : EclipseWheel.class.getDeclaredMethods()) {
-            if (java.lang.reflect.Modifier.isPublic(m.getModifiers())) {
-                calls.add(m);
-            }
-        }
-        // the machine tells methods in no fixed order
-        calls.sort(Comparator.comparing(Method::getName));
+        List<Method> calls = Calls.all();
         for (int run = from; run < from + runs && check.isClean(); run++) {
             row = run * 7919L + 17;
             run(run, calls);
@@ -56,12 +47,9 @@ public final class ModelTest {
             Object[] arguments = arguments(method, model, size);
             Class<?>[] types = method.getParameterTypes();
             Method other = Model.class.getDeclaredMethod(name, types);
-            StringBuilder told = new StringBuilder("run " + run + " call " + call + " " + name);
-            for (Object argument : arguments) {
-                told.append(" ").append(argument);
-            }
+            String told = "run " + run + " call " + call + " " + Calls.told(method, arguments);
             long due = ((Number) other.invoke(model, arguments)).longValue();
-            check.due(told.toString(), ((Number) method.invoke(x, arguments)).longValue(), due);
+            check.due(told, ((Number) method.invoke(x, arguments)).longValue(), due);
         }
         same(run, x, model);
     }

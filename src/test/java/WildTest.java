@@ -1,8 +1,5 @@
 import java.lang.reflect.InvocationTargetException;
 import java.lang.reflect.Method;
-import java.lang.reflect.Modifier;
-import java.util.ArrayList;
-import java.util.List;
 
 /** Every call with every border of its arguments, on a new object, a full one and one made from texts: none throws. */
 public final class WildTest {
@@ -13,11 +10,9 @@ public final class WildTest {
     private static final int CALLS = 500;
 
     public static void main(String[] args) throws ReflectiveOperationException {
-        for (Method method : EclipseWheel.class.getDeclaredMethods()) {
-            if (Modifier.isPublic(method.getModifiers())) {
-                for (int setup = 0; setup < 3; setup++) {
-                    tryAll(method, setup);
-                }
+        for (Method method : Calls.all()) {
+            for (int setup = 0; setup < 3; setup++) {
+                tryAll(method, setup);
             }
         }
         check.end();
@@ -52,7 +47,7 @@ public final class WildTest {
     private static void tryAll(Method method, int setup) throws ReflectiveOperationException {
         EclipseWheel x = make(setup);
         int calls = 0;
-        for (Object[] arguments : all(method.getParameterTypes())) {
+        for (Object[] arguments : Calls.rows(method, BORDERS)) {
             calls++;
             if (calls % (CALLS - 100) == 0) {
                 x = make(setup);
@@ -60,31 +55,9 @@ public final class WildTest {
             try {
                 method.invoke(x, arguments);
             } catch (InvocationTargetException e) {
-                StringBuilder told = new StringBuilder(method.getName());
-                for (Object argument : arguments) {
-                    told.append(" ").append(argument);
-                }
-                check.due(told + " threw " + e.getCause(), 1, 0);
+                check.due(Calls.told(method, arguments) + " threw " + e.getCause(), 1, 0);
             }
             check.due("standing", 0, 0);
         }
-    }
-
-    /** All of the borders for the first two arguments; fewer for the others, or there would be millions. */
-    private static List<Object[]> all(Class<?>[] types) {
-        List<Object[]> rows = new ArrayList<>();
-        rows.add(new Object[0]);
-        for (int i = 0; i < types.length; i++) {
-            List<Object[]> longer = new ArrayList<>();
-            for (Object[] row : rows) {
-                for (int b = 0; b < BORDERS.length; b += i < 2 ? 1 : 3) {
-                    Object[] next = java.util.Arrays.copyOf(row, i + 1);
-                    next[i] = types[i] == long.class ? (Object) Long.valueOf(BORDERS[b]) : (Object) BORDERS[b];
-                    longer.add(next);
-                }
-            }
-            rows = longer;
-        }
-        return rows;
     }
 }
