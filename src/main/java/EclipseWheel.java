@@ -624,7 +624,8 @@ public final class EclipseWheel {
     private int findRecords(int most, int what) {
         int many = 0;
         int least = MOST_PARTS;
-        for (int k = 1; k <= most && many < recordRow.length; k++) {
+        // None is less than 0.
+        for (int k = 1; k <= most && many < recordRow.length && least > 0; k++) {
             int far = now.driftOf(k, what);
             if (far < least) {
                 least = far;
@@ -995,7 +996,7 @@ public final class EclipseWheel {
             long period = it == null ? NO : it.ownPeriod();
             int round = period < 1 || period > LAST_MONTH ? none : (int) period;
             int least = none;
-            for (int first = 0; first < round; first++) {
+            for (int first = 0; first < round && first < least; first++) {
                 boolean isThere = placeAt(a, first) == p;
                 for (int m = first; isThere && m < least; m += round) {
                     if (placeAt(b, m) == q) {
